@@ -7,6 +7,7 @@ public final class KeptTest {
         promise24BackWithoutKept();
         promise24Back();
         promise24BackToAnotherReel();
+        promise24BackOfFullBench();
         promise24RulesAreNotKept();
         due.end();
     }
@@ -80,6 +81,36 @@ public final class KeptTest {
         due.is("2 wide", empty.many(1), 2);
         due.is("no frames", empty.many(2), 0);
         due.is("no layers", empty.many(3), 0);
+    }
+
+    private static void promise24BackOfFullBench() {
+        FilmBench x = new FilmBench();
+        x.reel(6, 6);
+        for (int f = 0; f < 10; f++) {
+            x.frame();
+            for (int y = 0; y < 6; y++) {
+                x.row(f, y, 123456789012L * (f + 1) + 98765432L * y);
+            }
+        }
+        for (int n = 0; n < 12; n++) {
+            x.layer(3, n % 10, n % 7 - 3, 3 - n % 5);
+        }
+        x.keep();
+        int[] kept = Due.all(x);
+        for (int f = 0; f < 10; f++) {
+            for (int y = 0; y < 6; y++) {
+                x.row(f, y, 0L);
+            }
+        }
+        for (int n = 0; n < 12; n++) {
+            x.peel();
+        }
+        for (int n = 0; n < 12; n++) {
+            x.layer(0, 9 - n % 10, 0, 0);
+            x.on(n, false);
+        }
+        x.back();
+        due.same("all frames and layers are back", Due.all(x), kept);
     }
 
     private static void promise24RulesAreNotKept() {

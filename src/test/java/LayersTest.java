@@ -12,6 +12,7 @@ public final class LayersTest {
         promise18MadeClean();
         promise18MadeMatch();
         promise18MadeMatchWithLost();
+        promise18MadeMatchOfFew();
         promise18MadeFill();
         promise18MadeMove();
         promise18MadeInOrder();
@@ -148,6 +149,20 @@ public final class LayersTest {
         x.row(1, 1, -1L);
         same(x, 0, new int[][] {{8, -1, 8}, {8, 3, 8}});
         same(x, 1, new int[][] {{-1, -1, -1}, {-1, -1, -1}});
+    }
+
+    private static void promise18MadeMatchOfFew() {
+        FilmBench x = Due.bench(
+                new int[][] {{4, 4}, {9, 9}},
+                new int[][] {{10, 20}, {30, 40}},
+                new int[][] {{-1, 7}, {-1, -1}});
+        x.layer(1, 0, 1, 0);
+        // 4: a 0, b 2, k 0; 9: a 2, b 2, k 2.
+        same(x, 0, new int[][] {{10, 10}, {30, 30}});
+        x.layer(1, 2, 1, 0);
+        same(x, 2, new int[][] {{-1, 10}, {-1, -1}});
+        x.layer(1, 1, 2, 0);
+        same(x, 1, new int[][] {{7, 7}, {7, 7}});
     }
 
     private static void promise18MadeFill() {
@@ -298,6 +313,10 @@ public final class LayersTest {
         FilmBench ends = Due.bench(new int[][] {{0, 0}, {0, 0}}, new int[][] {{63, 63}, {63, 63}});
         all(ends, 0, 0, 0, 0, 0, 0);
         all(ends, 1, 0, 252, 63, 63, 0);
+        FilmBench first = Due.bench(new int[][] {{1, 5}, {5, 5}}, new int[][] {{9, 5}, {5, 5}}, new int[][] {{5, 5}, {5, 1}});
+        all(first, 0, 0, 16, 1, 5, 0);
+        all(first, 1, 0, 24, 5, 9, 0);
+        all(first, 2, 0, 16, 1, 5, 0);
     }
 
     private static void all(FilmBench x, int frame, int... want) {

@@ -149,6 +149,18 @@ public final class ShiftsTest {
                 new int[][] {{9, 0, 9}, {9, 0, 9}});
         due.is("flanks dx", flanks.shift(1, 0), -1);
         due.is("flanks dy", flanks.shift(1, 1), 0);
+        // (1, 0) has MISS 0 and so has (0, -2): the sizes count, not the signs.
+        FilmBench sizes = Due.bench(
+                new int[][] {{0, 9, 5, 5}, {3, 1, 8, 5}, {5, 5, 5, 5}},
+                new int[][] {{5, 5, 5, 5}, {9, 3, 1, 8}, {2, 5, 5, 5}});
+        sizes.row(1, 0, Due.rowOf(5, 0, 9, 5));
+        sizes.row(0, 2, Due.rowOf(5, 0, 9, 5));
+        due.is("sizes: miss of (1, 0)", sizes.miss(1, 1, 0, 0), 1);
+        due.is("sizes: miss of (0, -2)", sizes.miss(1, 0, -2, 0), 0);
+        sizes.row(1, 2, Due.rowOf(2, 5, 0, 9));
+        due.is("sizes: miss of (1, 0)", sizes.miss(1, 1, 0, 0), 0);
+        due.is("sizes dx", sizes.shift(1, 0), 1);
+        due.is("sizes dy", sizes.shift(1, 1), 0);
         // The least MISS wins, however far: 0 of (-1, 0) against 2 / 6 of (0, 0).
         FilmBench farther = Due.bench(
                 new int[][] {{1, 1, 1}, {1, 1, 1}},
@@ -339,5 +351,19 @@ public final class ShiftsTest {
         due.is("D 1", x.dust(1), 1);
         x.rule(2, 63);
         due.is("E 63", x.dust(1), 0);
+        // 15 is 5 off the one, 7 off the other, whichever is ahead.
+        FilmBench sides = Due.bench(
+                new int[][] {{10, 8}, {20, 22}},
+                new int[][] {{15, 15}, {15, 15}},
+                new int[][] {{8, 10}, {22, 20}});
+        due.is("one side within E", sides.dust(1), 0);
+        sides.rule(2, 4);
+        due.is("E 4", sides.dust(1), 4);
+        // A lost one is not a grey of -1.
+        FilmBench lost = Due.bench(
+                new int[][] {{-1, 0}, {-1, 0}},
+                new int[][] {{30, 30}, {-1, -1}},
+                new int[][] {{0, -1}, {-1, 0}});
+        due.is("lost neighbours", lost.dust(1), 0);
     }
 }

@@ -15,6 +15,7 @@ public final class ShiftsTest {
         promise11Drift();
         promise12Path();
         promise12PathOfEquals();
+        promise12PathOfTenThenFewer();
         promise12PathRefused();
         promise13Bends();
         promise14Dust();
@@ -161,6 +162,16 @@ public final class ShiftsTest {
         due.is("sizes: miss of (1, 0)", sizes.miss(1, 1, 0, 0), 0);
         due.is("sizes dx", sizes.shift(1, 0), 1);
         due.is("sizes dy", sizes.shift(1, 1), 0);
+        // (0, -2) and (1, -1) have MISS 0 and size 2: the least dy wins.
+        FilmBench corner = Due.bench(
+                new int[][] {{1, 0, 0}, {0, 0, 0}, {0, 0, 0}},
+                new int[][] {{0, 0, 0}, {0, 1, 0}, {0, 0, 0}});
+        due.is("corner: miss of (1, -1)", corner.miss(1, 1, -1, 0), 1);
+        corner.put(0, 2, 0, 1);
+        corner.put(1, 0, 0, 1);
+        due.is("corner: miss of (1, -1)", corner.miss(1, 1, -1, 0), 0);
+        due.is("corner dx", corner.shift(1, 0), 0);
+        due.is("corner dy", corner.shift(1, 1), -2);
         // The least MISS wins, however far: 0 of (-1, 0) against 2 / 6 of (0, 0).
         FilmBench farther = Due.bench(
                 new int[][] {{1, 1, 1}, {1, 1, 1}},
@@ -286,6 +297,34 @@ public final class ShiftsTest {
         due.is("one frame", one.path(0, 0), 0);
         one.frame();
         due.is("two frames", one.path(1, 1), 0);
+    }
+
+    private static void promise12PathOfTenThenFewer() {
+        FilmBench x = drifting(new int[] {2, -2, 2, 1, -1, -2, -1, 2, 1}, new int[] {0, 2, 1, -2, 2, -2, 0, 1, -1});
+        int[] ofTen = new int[20];
+        for (int f = 0; f < 20; f++) {
+            ofTen[f] = x.path(f / 2, f % 2);
+            due.isTrue("path(" + f / 2 + ", " + f % 2 + ") strays 1 at most", Math.abs(ofTen[f] - x.drift(f / 2, f % 2)) <= 1);
+        }
+        x.keep();
+        int bendsOfTen = x.bends(0, 0);
+        x.rule(0, 3);
+        due.isTrue("with more room no more bends", x.bends(0, 0) <= bendsOfTen);
+        x.reel(6, 6);
+        int[] moves = {0, 2, 0, 2, 0};
+        for (int f = 0; f < 5; f++) {
+            x.frame();
+            tell(x, f, moves[f], 0);
+        }
+        for (int f = 0; f < 5; f++) {
+            due.is("of five: path(" + f + ", 0)", x.path(f, 0), 0);
+        }
+        due.is("of five: bends(0, 1)", x.bends(0, 1), 4);
+        x.back();
+        x.rule(0, 1);
+        for (int f = 0; f < 20; f++) {
+            due.is("of ten again: path(" + f / 2 + ", " + f % 2 + ")", x.path(f / 2, f % 2), ofTen[f]);
+        }
     }
 
     private static void promise12PathRefused() {

@@ -12,8 +12,8 @@ public final class KeptTest {
         due.end();
     }
 
-    private static FilmBench two() {
-        FilmBench x = Due.bench(new int[][] {{1, 2, -1}, {4, 5, 6}}, new int[][] {{7, -1, 9}, {10, 11, 12}});
+    private static Bench two() {
+        Bench x = Due.bench(new int[][] {{1, 2, -1}, {4, 5, 6}}, new int[][] {{7, -1, 9}, {10, 11, 12}});
         x.layer(2, 1, 0, 0);
         x.layer(3, 0, 1, -1);
         x.on(1, false);
@@ -21,30 +21,30 @@ public final class KeptTest {
     }
 
     private static void promise23Keep() {
-        FilmBench x = two();
-        int[] before = Due.all(x);
+        Bench x = two();
+        int[] before = x.seenNow();
         due.is("keep()", x.keep(), 1);
-        due.same("keep changes nothing that is seen", Due.all(x), before);
+        due.same("keep changes nothing that is seen", x.seenNow(), before);
         due.is("keep() again", x.keep(), 1);
         x.put(0, 0, 0, 50);
         due.is("keep() of the later", x.keep(), 1);
         x.put(0, 0, 0, 51);
         x.back();
         due.is("the latest is kept", x.raw(0, 0, 0), 50);
-        due.is("keep() of an empty bench", new FilmBench().keep(), 1);
+        due.is("keep() of an empty bench", new Bench().keep(), 1);
     }
 
     private static void promise24BackWithoutKept() {
-        FilmBench x = two();
-        int[] before = Due.all(x);
+        Bench x = two();
+        int[] before = x.seen();
         due.is("back()", x.back(), FilmBench.NONE);
-        due.same("a refused back changes nothing", Due.all(x), before);
+        due.same("a refused back changes nothing", x.seen(), before);
     }
 
     private static void promise24Back() {
-        FilmBench x = two();
+        Bench x = two();
         x.keep();
-        int[] kept = Due.all(x);
+        int[] kept = x.seen();
         for (int time = 0; time < 3; time++) {
             x.put(0, 0, 0, 60 + time);
             x.row(1, 1, -1L);
@@ -53,25 +53,25 @@ public final class KeptTest {
             x.on(0, false);
             x.layer(0, 0, 0, 0);
             due.is("back()", x.back(), 1);
-            due.same("all is back", Due.all(x), kept);
+            due.same("all is back", x.seen(), kept);
             x.peel();
             x.peel();
             x.layer(0, 0, 0, 0);
             due.is("back()", x.back(), 1);
-            due.same("the layers are back", Due.all(x), kept);
+            due.same("the layers are back", x.seen(), kept);
         }
     }
 
     private static void promise24BackToAnotherReel() {
-        FilmBench x = two();
+        Bench x = two();
         x.keep();
-        int[] kept = Due.all(x);
+        int[] kept = x.seen();
         x.reel(6, 5);
         x.frame();
         x.row(0, 5, 0L);
         due.is("back()", x.back(), 1);
-        due.same("the reel is back", Due.all(x), kept);
-        FilmBench empty = new FilmBench();
+        due.same("the reel is back", x.seen(), kept);
+        Bench empty = new Bench();
         empty.keep();
         empty.reel(3, 3);
         empty.frame();
@@ -84,7 +84,7 @@ public final class KeptTest {
     }
 
     private static void promise24BackOfFullBench() {
-        FilmBench x = new FilmBench();
+        Bench x = new Bench();
         x.reel(6, 6);
         for (int f = 0; f < 10; f++) {
             x.frame();
@@ -96,7 +96,7 @@ public final class KeptTest {
             x.layer(3, n % 10, n % 7 - 3, 3 - n % 5);
         }
         x.keep();
-        int[] kept = Due.all(x);
+        int[] kept = x.seen();
         for (int f = 0; f < 10; f++) {
             for (int y = 0; y < 6; y++) {
                 x.row(f, y, 0L);
@@ -110,11 +110,11 @@ public final class KeptTest {
             x.on(n, false);
         }
         x.back();
-        due.same("all frames and layers are back", Due.all(x), kept);
+        due.same("all frames and layers are back", x.seen(), kept);
     }
 
     private static void promise24RulesAreNotKept() {
-        FilmBench x = two();
+        Bench x = two();
         x.rule(0, 2);
         x.keep();
         x.rule(0, 3);

@@ -118,11 +118,11 @@ public final class LanguageTest {
         meter.getCurrentThreadAllocatedBytes();
         long before = meter.getCurrentThreadAllocatedBytes();
         int sum = 0;
-        for (int time = 0; time < 100; time++) {
+        for (int time = 0; time < 17; time++) {
             sum += allCalls(bench);
         }
         long made = meter.getCurrentThreadAllocatedBytes() - before;
-        due.isTrue("2700 calls make " + made + " bytes (" + sum + ")", made < 2000);
+        due.isTrue("459 calls make " + made + " bytes (" + sum + ")", made < 400);
     }
 
     private static int allCalls(FilmBench x) {

@@ -14,7 +14,7 @@ public final class ModelTest {
 
     private final Due due;
     private final Random chance;
-    private final FilmBench bench = new FilmBench();
+    private final Bench bench = new Bench();
     private final Model model = new Model();
     private final int greys;
     private final int lostOf100;
@@ -31,7 +31,7 @@ public final class ModelTest {
         for (int run = 0; run < RUNS; run++) {
             ModelTest test = new ModelTest(due, run);
             test.call(run, NAMES[0]);
-            for (int n = 1; n < CALLS; n++) {
+            while (test.bench.callsSoFar() < CALLS) {
                 test.call(run, test.anyName());
             }
         }
@@ -130,7 +130,7 @@ public final class ModelTest {
     private void fill(int run) {
         if (chance.nextInt(8) == 0) return;
         int last = model.many(2) - 1;
-        for (int y = 0; y < model.many(0); y++) {
+        for (int y = 0; y < model.many(0) && bench.callsSoFar() < CALLS; y++) {
             row(run, last, y);
         }
     }

@@ -11,7 +11,7 @@ public final class PathTest {
     public static void main(String[] args) {
         java.util.Random chance = new java.util.Random(5);
         for (int run = 0; run < 200; run++) {
-            FilmBench bench = new FilmBench();
+            Bench bench = new Bench();
             bench.reel(2 + chance.nextInt(3), 2 + chance.nextInt(3));
             int frames = 1 + chance.nextInt(6);
             for (int f = 0; f < frames; f++) {
@@ -28,7 +28,7 @@ public final class PathTest {
         due.end();
     }
 
-    private static void compare(FilmBench bench, int frames, int axis) {
+    private static void compare(Bench bench, int frames, int axis) {
         drifts = new int[frames];
         for (int f = 0; f < frames; f++) {
             drifts[f] = bench.drift(f, axis);

@@ -1,8 +1,8 @@
 /** Promises 1 to 8: a new object and the raw frames. */
 public final class RawFramesTest {
     private static final Due due = new Due();
-    private static final int MIN = Integer.MIN_VALUE;
-    private static final int MAX = Integer.MAX_VALUE;
+    private static final int MIN = Due.MIN;
+    private static final int MAX = Due.MAX;
 
     public static void main(String[] args) {
         promise1New();
@@ -19,7 +19,7 @@ public final class RawFramesTest {
     }
 
     private static void promise1New() {
-        FilmBench x = new FilmBench();
+        Bench x = new Bench();
         int[] want = {2, 2, 0, 0, 0, 0, 1, 2, 5};
         for (int what = 0; what < want.length; what++) {
             due.is("new: many(" + what + ")", x.many(what), want[what]);
@@ -34,7 +34,7 @@ public final class RawFramesTest {
     }
 
     private static void promise2Reel() {
-        FilmBench x = new FilmBench();
+        Bench x = new Bench();
         for (int high = -1; high <= 8; high++) {
             for (int wide = -1; wide <= 8; wide++) {
                 boolean may = high >= 2 && high <= 6 && wide >= 2 && wide <= 6;
@@ -44,12 +44,12 @@ public final class RawFramesTest {
         x.reel(3, 4);
         x.frame();
         x.layer(0, 0, 0, 0);
-        int[] before = Due.all(x);
+        int[] before = x.seen();
         for (int wrong : new int[] {MIN, -2, 0, 1, 7, MAX}) {
             due.is("reel(" + wrong + ", 2)", x.reel(wrong, 2), FilmBench.NUMBER);
             due.is("reel(2, " + wrong + ")", x.reel(2, wrong), FilmBench.NUMBER);
         }
-        due.same("a refused reel changes nothing", Due.all(x), before);
+        due.same("a refused reel changes nothing", x.seen(), before);
         due.is("reel(5, 2)", x.reel(5, 2), 10);
         due.is("high", x.many(0), 5);
         due.is("wide", x.many(1), 2);
@@ -61,7 +61,7 @@ public final class RawFramesTest {
     }
 
     private static void promise2ReelKeepsRules() {
-        FilmBench x = new FilmBench();
+        Bench x = new Bench();
         x.rule(0, 3);
         x.rule(1, 9);
         x.rule(2, 50);
@@ -75,7 +75,7 @@ public final class RawFramesTest {
     }
 
     private static void promise3Frame() {
-        FilmBench x = new FilmBench();
+        Bench x = new Bench();
         x.reel(6, 6);
         for (int f = 0; f < 10; f++) {
             due.is("frame()", x.frame(), f);
@@ -90,34 +90,34 @@ public final class RawFramesTest {
     }
 
     private static void promise4Again() {
-        FilmBench x = Due.bench(new int[][] {{0, 10, -1}, {62, 63, 5}});
+        Bench x = Due.bench(new int[][] {{0, 10, -1}, {62, 63, 5}});
         due.is("again(0, 5)", x.again(0, 5), 1);
-        same(x, 1, new int[][] {{5, 15, -1}, {63, 63, 10}});
+        due.raw(x, 1, new int[][] {{5, 15, -1}, {63, 63, 10}});
         due.is("again(1, -10)", x.again(1, -10), 2);
-        same(x, 2, new int[][] {{0, 5, -1}, {53, 53, 0}});
+        due.raw(x, 2, new int[][] {{0, 5, -1}, {53, 53, 0}});
         due.is("again(0, 63)", x.again(0, 63), 3);
-        same(x, 3, new int[][] {{63, 63, -1}, {63, 63, 63}});
+        due.raw(x, 3, new int[][] {{63, 63, -1}, {63, 63, 63}});
         due.is("again(0, -63)", x.again(0, -63), 4);
-        same(x, 4, new int[][] {{0, 0, -1}, {0, 0, 0}});
+        due.raw(x, 4, new int[][] {{0, 0, -1}, {0, 0, 0}});
         due.is("again(0, 0)", x.again(0, 0), 5);
-        same(x, 5, new int[][] {{0, 10, -1}, {62, 63, 5}});
+        due.raw(x, 5, new int[][] {{0, 10, -1}, {62, 63, 5}});
         x.layer(3, 0, 1, 1);
         due.is("again(0, 0) of RAW", x.again(0, 0), 6);
-        same(x, 6, new int[][] {{0, 10, -1}, {62, 63, 5}});
+        due.raw(x, 6, new int[][] {{0, 10, -1}, {62, 63, 5}});
         x.put(6, 0, 0, 33);
         due.is("the first is its own", x.raw(0, 0, 0), 0);
     }
 
     private static void promise4AgainRefused() {
-        FilmBench x = Due.bench(new int[][] {{0, 10}, {62, 63}});
-        int[] before = Due.all(x);
+        Bench x = Due.bench(new int[][] {{0, 10}, {62, 63}});
+        int[] before = x.seen();
         for (int wrong : new int[] {MIN, -64, 64, MAX}) {
             due.is("again(0, " + wrong + ")", x.again(0, wrong), FilmBench.NUMBER);
         }
         for (int wrong : new int[] {MIN, -1, 1, 10, MAX}) {
             due.is("again(" + wrong + ", 0)", x.again(wrong, 0), FilmBench.NUMBER);
         }
-        due.same("a refused again changes nothing", Due.all(x), before);
+        due.same("a refused again changes nothing", x.seen(), before);
         for (int f = 1; f < 10; f++) {
             due.is("again(0, 1)", x.again(0, 1), f);
         }
@@ -128,7 +128,7 @@ public final class RawFramesTest {
     }
 
     private static void promise5Put() {
-        FilmBench x = new FilmBench();
+        Bench x = new Bench();
         x.reel(2, 3);
         due.is("put without frames", x.put(0, 0, 0, 0), FilmBench.NOTHING);
         x.frame();
@@ -137,9 +137,9 @@ public final class RawFramesTest {
         due.is("put(0, 1, 2, 0)", x.put(0, 1, 2, 0), 63);
         due.is("put(0, 1, 2, -1)", x.put(0, 1, 2, -1), 0);
         due.is("put(0, 1, 2, 7)", x.put(0, 1, 2, 7), -1);
-        same(x, 0, new int[][] {{-1, -1, -1}, {-1, -1, 7}});
-        same(x, 1, new int[][] {{-1, -1, -1}, {-1, -1, -1}});
-        int[] before = Due.all(x);
+        due.raw(x, 0, new int[][] {{-1, -1, -1}, {-1, -1, 7}});
+        due.raw(x, 1, new int[][] {{-1, -1, -1}, {-1, -1, -1}});
+        int[] before = x.seen();
         for (int wrong : new int[] {MIN, -1, 2, MAX}) {
             due.is("put(" + wrong + ", 0, 0, 1)", x.put(wrong, 0, 0, 1), FilmBench.NOTHING);
             due.is("put(0, " + wrong + ", 0, 1)", x.put(0, wrong, 0, 1), FilmBench.NOTHING);
@@ -150,38 +150,38 @@ public final class RawFramesTest {
         for (int wrong : new int[] {MIN, -2, 64, MAX}) {
             due.is("put(0, 0, 0, " + wrong + ")", x.put(0, 0, 0, wrong), FilmBench.NOTHING);
         }
-        due.same("a refused put changes nothing", Due.all(x), before);
+        due.same("a refused put changes nothing", x.seen(), before);
     }
 
     private static void promise6Row() {
-        FilmBench x = new FilmBench();
+        Bench x = new Bench();
         x.reel(3, 6);
         due.is("row without frames", x.row(0, 0, 0L), FilmBench.NUMBER);
         x.frame();
         due.is("row of six", x.row(0, 1, Due.rowOf(1, -1, 63, 0, -1, 20)), 4);
-        same(x, 0, new int[][] {{-1, -1, -1, -1, -1, -1}, {1, -1, 63, 0, -1, 20}, {-1, -1, -1, -1, -1, -1}});
+        due.raw(x, 0, new int[][] {{-1, -1, -1, -1, -1, -1}, {1, -1, 63, 0, -1, 20}, {-1, -1, -1, -1, -1, -1}});
         due.is("row of ones", x.row(0, 1, -1L), 0);
         due.is("127 is lost", x.raw(0, 1, 5), -1);
         due.is("row of bits above", x.row(0, 1, ~((1L << 42) - 1)), 6);
-        same(x, 0, new int[][] {{-1, -1, -1, -1, -1, -1}, {0, 0, 0, 0, 0, 0}, {-1, -1, -1, -1, -1, -1}});
+        due.raw(x, 0, new int[][] {{-1, -1, -1, -1, -1, -1}, {0, 0, 0, 0, 0, 0}, {-1, -1, -1, -1, -1, -1}});
         due.is("64 and 63", x.row(0, 2, 64L | 63L << 35), 5);
         due.is("64 is lost", x.raw(0, 2, 0), -1);
         due.is("column 5", x.raw(0, 2, 5), 63);
-        int[] before = Due.all(x);
+        int[] before = x.seen();
         for (int wrong : new int[] {MIN, -1, 3, MAX}) {
             due.is("row(0, " + wrong + ", 0)", x.row(0, wrong, 0L), FilmBench.NUMBER);
         }
         for (int wrong : new int[] {MIN, -1, 1, MAX}) {
             due.is("row(" + wrong + ", 0, 0)", x.row(wrong, 0, 0L), FilmBench.NUMBER);
         }
-        due.same("a refused row changes nothing", Due.all(x), before);
+        due.same("a refused row changes nothing", x.seen(), before);
     }
 
     private static void promise7Raw() {
-        FilmBench x = Due.bench(new int[][] {{0, 1, 2}, {3, 4, -1}});
-        same(x, 0, new int[][] {{0, 1, 2}, {3, 4, -1}});
+        Bench x = Due.bench(new int[][] {{0, 1, 2}, {3, 4, -1}});
+        due.raw(x, 0, new int[][] {{0, 1, 2}, {3, 4, -1}});
         x.layer(3, 0, 1, 0);
-        same(x, 0, new int[][] {{0, 1, 2}, {3, 4, -1}});
+        due.raw(x, 0, new int[][] {{0, 1, 2}, {3, 4, -1}});
         for (int wrong : new int[] {MIN, -1, 1, MAX}) {
             due.is("raw(" + wrong + ", 0, 0)", x.raw(wrong, 0, 0), FilmBench.NOTHING);
         }
@@ -194,11 +194,11 @@ public final class RawFramesTest {
     }
 
     private static void promise8Rule() {
-        FilmBench x = new FilmBench();
-        int[] now = {1, 2, 5};
         int[] least = {0, 0, 1};
         int[] most = {3, 10, 63};
         for (int what = 0; what < 3; what++) {
+            Bench x = new Bench();
+            int[] now = {1, 2, 5};
             for (int v = -2; v < 70; v++) {
                 if (v < least[what] || v > most[what]) {
                     due.is("rule(" + what + ", " + v + ")", x.rule(what, v), FilmBench.NUMBER);
@@ -214,15 +214,7 @@ public final class RawFramesTest {
             due.is("rule(" + what + ", MAX)", x.rule(what, MAX), FilmBench.NUMBER);
         }
         for (int wrong : new int[] {MIN, -1, 3, MAX}) {
-            due.is("rule(" + wrong + ", 1)", x.rule(wrong, 1), FilmBench.NUMBER);
-        }
-    }
-
-    private static void same(FilmBench x, int frame, int[][] want) {
-        for (int y = 0; y < want.length; y++) {
-            for (int c = 0; c < want[y].length; c++) {
-                due.is("raw(" + frame + ", " + y + ", " + c + ")", x.raw(frame, y, c), want[y][c]);
-            }
+            due.is("rule(" + wrong + ", 1)", new Bench().rule(wrong, 1), FilmBench.NUMBER);
         }
     }
 }

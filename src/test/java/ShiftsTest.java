@@ -1,8 +1,8 @@
 /** Promises 9 to 14: misses, shifts, drifts, paths and dust. */
 public final class ShiftsTest {
     private static final Due due = new Due();
-    private static final int MIN = Integer.MIN_VALUE;
-    private static final int MAX = Integer.MAX_VALUE;
+    private static final int MIN = Due.MIN;
+    private static final int MAX = Due.MAX;
 
     public static void main(String[] args) {
         promise9Miss();
@@ -24,7 +24,7 @@ public final class ShiftsTest {
     }
 
     private static void promise9Miss() {
-        FilmBench x = Due.bench(
+        Bench x = Due.bench(
                 new int[][] {{1, 2, 3}, {4, 5, 6}},
                 new int[][] {{10, 20, 30}, {40, -1, 60}});
         ratio(x, 1, 0, 0, 144, 5);
@@ -43,7 +43,7 @@ public final class ShiftsTest {
     }
 
     /** The answers are due in lowest terms. */
-    private static void ratio(FilmBench x, int frame, int dx, int dy, int sum, int pairs) {
+    private static void ratio(Bench x, int frame, int dx, int dy, int sum, int pairs) {
         int a = sum;
         int b = pairs;
         while (b != 0) {
@@ -57,7 +57,7 @@ public final class ShiftsTest {
     }
 
     private static void promise9MissNeedsAQuarter() {
-        FilmBench x = new FilmBench();
+        Bench x = new Bench();
         x.reel(3, 3);
         x.frame();
         x.frame();
@@ -70,7 +70,7 @@ public final class ShiftsTest {
         x.put(0, 2, 2, 0);
         x.put(1, 2, 2, 1);
         ratio(x, 1, 0, 0, 3, 3);
-        FilmBench z = new FilmBench();
+        Bench z = new Bench();
         z.reel(2, 4);
         z.frame();
         z.frame();
@@ -85,7 +85,7 @@ public final class ShiftsTest {
     }
 
     private static void promise9MissRefused() {
-        FilmBench x = new FilmBench();
+        Bench x = new Bench();
         due.is("miss without frames", x.miss(0, 0, 0, 0), FilmBench.NUMBER);
         x.frame();
         x.frame();
@@ -107,36 +107,25 @@ public final class ShiftsTest {
     private static void promise10ShiftFindsMoves() {
         for (int dy = -2; dy <= 2; dy++) {
             for (int dx = -2; dx <= 2; dx++) {
-                FilmBench x = Due.bench(picture(0, 0), picture(dx, dy));
+                Bench x = Due.bench(Due.picture(0, 0), Due.picture(dx, dy));
                 due.is("dx of (" + dx + ", " + dy + ")", x.shift(1, 0), dx);
                 due.is("dy of (" + dx + ", " + dy + ")", x.shift(1, 1), dy);
             }
         }
     }
 
-    /** A picture without two like parts, moved, with what comes in at its sides unlike all. */
-    private static int[][] picture(int dx, int dy) {
-        int[][] squares = new int[6][6];
-        for (int y = 0; y < 6; y++) {
-            for (int x = 0; x < 6; x++) {
-                squares[y][x] = ((x - dx) * (x - dx) * 7 + (y - dy) * (y - dy) * 11 + (x - dx) * (y - dy) * 5 + 640) % 64;
-            }
-        }
-        return squares;
-    }
-
     private static void promise10ShiftOfEquals() {
         // All squares alike: every shift has MISS 0, and the least sum of sizes wins.
-        FilmBench flat = Due.bench(new int[][] {{5, 5}, {5, 5}}, new int[][] {{5, 5}, {5, 5}});
+        Bench flat = Due.bench(new int[][] {{5, 5}, {5, 5}}, new int[][] {{5, 5}, {5, 5}});
         due.is("flat dx", flat.shift(1, 0), 0);
         due.is("flat dy", flat.shift(1, 1), 0);
         // All are 7 off, whatever the number of pairs.
-        FilmBench brighter = Due.bench(new int[][] {{5, 5}, {5, 5}}, new int[][] {{12, 12}, {12, 12}});
+        Bench brighter = Due.bench(new int[][] {{5, 5}, {5, 5}}, new int[][] {{12, 12}, {12, 12}});
         due.is("brighter (1, 1)", brighter.miss(1, 1, 1, 0), 7);
         due.is("brighter dx", brighter.shift(1, 0), 0);
         due.is("brighter dy", brighter.shift(1, 1), 0);
         // Four of size 1 have MISS 0: the least dy wins.
-        FilmBench sides = Due.bench(
+        Bench sides = Due.bench(
                 new int[][] {{0, 9, 0}, {9, 0, 9}},
                 new int[][] {{9, 0, 9}, {0, 9, 0}});
         due.is("sides: miss of (-1, 0)", sides.miss(1, -1, 0, 0), 0);
@@ -145,13 +134,13 @@ public final class ShiftsTest {
         due.is("sides dx", sides.shift(1, 0), 0);
         due.is("sides dy", sides.shift(1, 1), -1);
         // Only (-1, 0) and (1, 0) of size 1 have MISS 0: the least dx wins.
-        FilmBench flanks = Due.bench(
+        Bench flanks = Due.bench(
                 new int[][] {{0, 9, 0}, {0, 9, 0}},
                 new int[][] {{9, 0, 9}, {9, 0, 9}});
         due.is("flanks dx", flanks.shift(1, 0), -1);
         due.is("flanks dy", flanks.shift(1, 1), 0);
         // (1, 0) has MISS 0 and so has (0, -2): the sizes count, not the signs.
-        FilmBench sizes = Due.bench(
+        Bench sizes = Due.bench(
                 new int[][] {{0, 9, 5, 5}, {3, 1, 8, 5}, {5, 5, 5, 5}},
                 new int[][] {{5, 5, 5, 5}, {9, 3, 1, 8}, {2, 5, 5, 5}});
         sizes.row(1, 0, Due.rowOf(5, 0, 9, 5));
@@ -163,7 +152,7 @@ public final class ShiftsTest {
         due.is("sizes dx", sizes.shift(1, 0), 1);
         due.is("sizes dy", sizes.shift(1, 1), 0);
         // (0, -2) and (1, -1) have MISS 0 and size 2: the least dy wins.
-        FilmBench corner = Due.bench(
+        Bench corner = Due.bench(
                 new int[][] {{1, 0, 0}, {0, 0, 0}, {0, 0, 0}},
                 new int[][] {{0, 0, 0}, {0, 1, 0}, {0, 0, 0}});
         due.is("corner: miss of (1, -1)", corner.miss(1, 1, -1, 0), 1);
@@ -173,7 +162,7 @@ public final class ShiftsTest {
         due.is("corner dx", corner.shift(1, 0), 0);
         due.is("corner dy", corner.shift(1, 1), -2);
         // The least MISS wins, however far: 0 of (-1, 0) against 2 / 6 of (0, 0).
-        FilmBench farther = Due.bench(
+        Bench farther = Due.bench(
                 new int[][] {{1, 1, 1}, {1, 1, 1}},
                 new int[][] {{1, 1, 2}, {1, 1, 2}});
         due.is("farther (0, 0)", farther.miss(1, 0, 0, 1), 3);
@@ -182,7 +171,7 @@ public final class ShiftsTest {
     }
 
     private static void promise10ShiftWithoutAny() {
-        FilmBench x = new FilmBench();
+        Bench x = new Bench();
         x.reel(3, 3);
         x.frame();
         x.frame();
@@ -202,7 +191,7 @@ public final class ShiftsTest {
     }
 
     private static void promise10ShiftRefused() {
-        FilmBench x = new FilmBench();
+        Bench x = new Bench();
         due.is("shift without frames", x.shift(0, 0), FilmBench.NOTHING);
         x.frame();
         x.frame();
@@ -214,32 +203,8 @@ public final class ShiftsTest {
         }
     }
 
-    /** A bench whose frames are the picture, moved on by these shifts. */
-    private static FilmBench drifting(int[] dxs, int[] dys) {
-        FilmBench x = new FilmBench();
-        x.reel(6, 6);
-        x.frame();
-        tell(x, 0, 0, 0);
-        int sumX = 0;
-        int sumY = 0;
-        for (int f = 0; f < dxs.length; f++) {
-            sumX += dxs[f];
-            sumY += dys[f];
-            x.frame();
-            tell(x, f + 1, sumX, sumY);
-        }
-        return x;
-    }
-
-    private static void tell(FilmBench x, int frame, int dx, int dy) {
-        int[][] squares = picture(dx, dy);
-        for (int y = 0; y < 6; y++) {
-            x.row(frame, y, Due.rowOf(squares[y]));
-        }
-    }
-
     private static void promise11Drift() {
-        FilmBench x = drifting(new int[] {1, 2, -1, -2, 0}, new int[] {0, -1, -1, 1, 0});
+        Bench x = Due.drifting(new int[] {1, 2, -1, -2, 0}, new int[] {0, -1, -1, 1, 0});
         int[] wantX = {0, 1, 3, 2, 0, 0};
         int[] wantY = {0, 0, -1, -2, -1, -1};
         for (int f = 0; f < 6; f++) {
@@ -252,11 +217,11 @@ public final class ShiftsTest {
         for (int wrong : new int[] {MIN, -1, 2, MAX}) {
             due.is("drift(0, " + wrong + ")", x.drift(0, wrong), FilmBench.NOTHING);
         }
-        due.is("drift without frames", new FilmBench().drift(0, 0), FilmBench.NOTHING);
+        due.is("drift without frames", new Bench().drift(0, 0), FilmBench.NOTHING);
     }
 
     private static void promise12Path() {
-        FilmBench x = drifting(new int[] {2, -2, 2, -2}, new int[] {1, 1, 1, 1});
+        Bench x = Due.drifting(new int[] {2, -2, 2, -2}, new int[] {1, 1, 1, 1});
         int[] even = {1, 1, 1, 1, 1};
         int[] rising = {0, 1, 2, 3, 4};
         for (int f = 0; f < 5; f++) {
@@ -277,7 +242,7 @@ public final class ShiftsTest {
 
     private static void promise12PathOfEquals() {
         // Drifts 0 2 0: 0 0 0 strays 2, 1 1 1 strays 3, both without bends.
-        FilmBench x = drifting(new int[] {2, -2}, new int[] {-2, 2});
+        Bench x = Due.drifting(new int[] {2, -2}, new int[] {-2, 2});
         x.rule(0, 2);
         int[] want = {0, 0, 0};
         for (int f = 0; f < 3; f++) {
@@ -285,14 +250,14 @@ public final class ShiftsTest {
             due.is("S 2: path(" + f + ", 1)", x.path(f, 1), want[f]);
         }
         // Drifts 0 1 1: 0 1 2 and 1 1 1 have no bend and one stray of 1; the lesser first number wins.
-        FilmBench z = drifting(new int[] {1, 0}, new int[] {-1, 0});
+        Bench z = Due.drifting(new int[] {1, 0}, new int[] {-1, 0});
         int[] lesserX = {0, 1, 2};
         int[] lesserY = {-1, -1, -1};
         for (int f = 0; f < 3; f++) {
             due.is("path(" + f + ", 0)", z.path(f, 0), lesserX[f]);
             due.is("path(" + f + ", 1)", z.path(f, 1), lesserY[f]);
         }
-        FilmBench one = new FilmBench();
+        Bench one = new Bench();
         one.frame();
         due.is("one frame", one.path(0, 0), 0);
         one.frame();
@@ -300,7 +265,7 @@ public final class ShiftsTest {
     }
 
     private static void promise12PathOfTenThenFewer() {
-        FilmBench x = drifting(new int[] {2, -2, 2, 1, -1, -2, -1, 2, 1}, new int[] {0, 2, 1, -2, 2, -2, 0, 1, -1});
+        Bench x = Due.drifting(new int[] {2, -2, 2, 1, -1, -2, -1, 2, 1}, new int[] {0, 2, 1, -2, 2, -2, 0, 1, -1});
         int[] ofTen = new int[20];
         for (int f = 0; f < 20; f++) {
             ofTen[f] = x.path(f / 2, f % 2);
@@ -313,8 +278,7 @@ public final class ShiftsTest {
         x.reel(6, 6);
         int[] moves = {0, 2, 0, 2, 0};
         for (int f = 0; f < 5; f++) {
-            x.frame();
-            tell(x, f, moves[f], 0);
+            Due.addFrame(x, Due.picture(moves[f], 0));
         }
         for (int f = 0; f < 5; f++) {
             due.is("of five: path(" + f + ", 0)", x.path(f, 0), 0);
@@ -328,7 +292,7 @@ public final class ShiftsTest {
     }
 
     private static void promise12PathRefused() {
-        FilmBench x = new FilmBench();
+        Bench x = new Bench();
         due.is("path without frames", x.path(0, 0), FilmBench.NOTHING);
         x.frame();
         x.frame();
@@ -339,7 +303,7 @@ public final class ShiftsTest {
     }
 
     private static void promise13Bends() {
-        FilmBench x = drifting(new int[] {2, -2, 2, -2}, new int[] {1, 1, 1, 1});
+        Bench x = Due.drifting(new int[] {2, -2, 2, -2}, new int[] {1, 1, 1, 1});
         due.is("S 1: bends(0, 0)", x.bends(0, 0), 0);
         due.is("S 1: bends(0, 1)", x.bends(0, 1), 5);
         due.is("S 1: bends(1, 0)", x.bends(1, 0), 0);
@@ -354,13 +318,13 @@ public final class ShiftsTest {
             due.is("bends(" + wrong + ", 0)", x.bends(wrong, 0), FilmBench.NUMBER);
             due.is("bends(0, " + wrong + ")", x.bends(0, wrong), FilmBench.NUMBER);
         }
-        FilmBench none = new FilmBench();
+        Bench none = new Bench();
         due.is("without frames: bends(0, 0)", none.bends(0, 0), 0);
         due.is("without frames: bends(1, 1)", none.bends(1, 1), 0);
     }
 
     private static void promise14Dust() {
-        FilmBench x = Due.bench(
+        Bench x = Due.bench(
                 new int[][] {{10, 10, 10}, {10, -1, 10}, {10, 10, 0}},
                 new int[][] {{30, 16, 15}, {4, 30, 30}, {-1, 18, 63}},
                 new int[][] {{10, 10, 10}, {10, 10, -1}, {10, 12, 3}});
@@ -376,11 +340,11 @@ public final class ShiftsTest {
         for (int wrong : new int[] {MIN, -1, 3, MAX}) {
             due.is("dust(" + wrong + ")", x.dust(wrong), FilmBench.NUMBER);
         }
-        due.is("dust without frames", new FilmBench().dust(0), FilmBench.NUMBER);
+        due.is("dust without frames", new Bench().dust(0), FilmBench.NUMBER);
     }
 
     private static void promise14DustEdges() {
-        FilmBench x = Due.bench(
+        Bench x = Due.bench(
                 new int[][] {{20, 20}, {20, 22}},
                 new int[][] {{26, 25}, {27, 28}},
                 new int[][] {{20, 20}, {22, 20}});
@@ -391,7 +355,7 @@ public final class ShiftsTest {
         x.rule(2, 63);
         due.is("E 63", x.dust(1), 0);
         // 15 is 5 off the one, 7 off the other, whichever is ahead.
-        FilmBench sides = Due.bench(
+        Bench sides = Due.bench(
                 new int[][] {{10, 8}, {20, 22}},
                 new int[][] {{15, 15}, {15, 15}},
                 new int[][] {{8, 10}, {22, 20}});
@@ -399,7 +363,7 @@ public final class ShiftsTest {
         sides.rule(2, 4);
         due.is("E 4", sides.dust(1), 4);
         // A lost one is not a grey of -1.
-        FilmBench lost = Due.bench(
+        Bench lost = Due.bench(
                 new int[][] {{-1, 0}, {-1, 0}},
                 new int[][] {{30, 30}, {-1, -1}},
                 new int[][] {{0, -1}, {-1, 0}});

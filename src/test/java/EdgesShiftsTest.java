@@ -418,6 +418,10 @@ public final class EdgesShiftsTest {
         path(along(3, -2, 0, 2, 2), new int[] {-3, -2, -1, 0, 1}, 0, 5);
         path(along(3, 2, 2, 0, -2), new int[] {1, 2, 3, 4, 5}, 0, 5);
         path(along(3, -2, -2, 0, 2), new int[] {-1, -2, -3, -4, -5}, 0, 5);
+        // Six FRAMES with all of the room that S 3 gives, off by 3 inside.
+        path(along(3, 2, 2, 2, -2, -2), new int[] {0, 1, 2, 3, 4, 5}, 0, 9);
+        path(along(3, -2, -2, 2, 2, 1), new int[] {-2, -2, -2, -2, -2, -2}, 0, 9);
+        path(along(3, 2, -2, -1, 0, 0), new int[] {-1, -1, -1, -1, -1, -1}, 0, 5);
         path(along(1, 2, 0, -2, -2), new int[] {1, 1, 1, 0, -1}, 1, 4);
         path(along(2, 2, 0, -2, -2), new int[] {0, 0, 0, 0, 0}, 0, 6);
         path(along(2, 2, 2, 0, -2), new int[] {0, 1, 2, 3, 4}, 0, 6);
@@ -429,6 +433,11 @@ public final class EdgesShiftsTest {
         path(along(2, 2, -2), new int[] {0, 0, 0}, 0, 2);
         path(along(3, 2, -2), new int[] {0, 0, 0}, 0, 2);
         path(along(2, -2, 2), new int[] {0, 0, 0}, 0, 2);
+        // Drifts 0 1 0: off at the middle one alone; drifts 0 1 1 1 and 0 -1 -1 -1: off at the first alone.
+        path(along(1, 1, -1), new int[] {0, 0, 0}, 0, 1);
+        path(along(1, -1, 1), new int[] {0, 0, 0}, 0, 1);
+        path(along(1, 1, 0, 0), new int[] {1, 1, 1, 1}, 0, 1);
+        path(along(1, -1, 0, 0), new int[] {-1, -1, -1, -1}, 0, 1);
         // Drifts 0 0 0 1: 0 0 0 0 strays once; the drifts themselves bend.
         path(along(1, 0, 0, 1), new int[] {0, 0, 0, 0}, 0, 1);
         path(along(0, 0, 0, 1), new int[] {0, 0, 0, 1}, 1, 0);

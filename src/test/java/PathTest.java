@@ -1,4 +1,7 @@
-/** Promises 12 and 13 once more: THE PATH against every path that may be, for up to six frames. */
+/**
+ * Promises 12 and 13 once more: THE PATH against every path that may be, for every drift of up to four
+ * frames with every S, and for some of up to six frames.
+ */
 public final class PathTest {
     private static final Due due = new Due();
     private static int[] drifts;
@@ -9,6 +12,32 @@ public final class PathTest {
     private static int bestStrays;
 
     public static void main(String[] args) {
+        everyDriftOfFewFrames();
+        someOfMoreFrames();
+        due.end();
+    }
+
+    /** Three shifts of -2 to 2 along x, and the same ones in turned order along y. */
+    private static void everyDriftOfFewFrames() {
+        for (int n = 0; n < 125; n++) {
+            int[] across = {n / 25 - 2, n / 5 % 5 - 2, n % 5 - 2};
+            int[] down = {across[2], across[1], across[0]};
+            for (int frames = 1; frames <= 4; frames++) {
+                Bench bench = Due.drifting(java.util.Arrays.copyOf(across, frames - 1), java.util.Arrays.copyOf(down, frames - 1));
+                for (int f = 1; f < frames; f++) {
+                    due.is("shift(" + f + ", 0)", bench.shift(f, 0), across[f - 1]);
+                    due.is("shift(" + f + ", 1)", bench.shift(f, 1), down[f - 1]);
+                }
+                for (most = 0; most <= 3; most++) {
+                    bench.rule(0, most);
+                    compare(bench, frames, 0);
+                    compare(bench, frames, 1);
+                }
+            }
+        }
+    }
+
+    private static void someOfMoreFrames() {
         java.util.Random chance = new java.util.Random(5);
         for (int run = 0; run < 200; run++) {
             Bench bench = new Bench();
@@ -25,7 +54,6 @@ public final class PathTest {
             compare(bench, frames, 0);
             compare(bench, frames, 1);
         }
-        due.end();
     }
 
     private static void compare(Bench bench, int frames, int axis) {

